@@ -4,12 +4,34 @@ import java.util.function.LongSupplier;
 final class Checks {
     private int made = 0;
     private int wrong = 0;
+    private int sentences = 0;
+
+    /** A test of one sentence of the document: if it finds a wrong answer, the sentence is printed behind it. */
+    void test(String sentence, Runnable body) {
+        sentences++;
+        int before = wrong;
+        try {
+            body.run();
+        } catch (RuntimeException e) {
+            // The tests behind this one shall run all the same.
+            tellWrong("a call threw " + e);
+        }
+        if (wrong != before) {
+            System.out.println("BROKEN: " + sentence);
+        }
+    }
 
     void same(String what, long got, long due) {
         made++;
         if (got != due) {
-            wrong++;
-            System.out.println(what + " answered " + got + ", due is " + due);
+            tellWrong(what + " answered " + got + ", due is " + due);
+        }
+    }
+
+    void sameText(String what, String got, String due) {
+        made++;
+        if (!got.equals(due)) {
+            tellWrong(what + " is " + got + ", due is " + due);
         }
     }
 
@@ -33,11 +55,18 @@ final class Checks {
             }
             got = "threw " + e;
         }
+        tellWrong(what + " " + got + ", due is " + due.getSimpleName());
+    }
+
+    private void tellWrong(String text) {
         wrong++;
-        System.out.println(what + " " + got + ", due is " + due.getSimpleName());
+        System.out.println(text);
     }
 
     void end() {
+        if (sentences != 0) {
+            System.out.print(sentences + " sentences, ");
+        }
         System.out.println(made + " checks, " + wrong + " wrong");
         if (wrong != 0) {
             System.exit(1);
